@@ -738,7 +738,7 @@ public final class MailPriory {
         final int score;
         final int cause;
         final int lapseDay;
-        int state;
+        int state = HELD;
         int reachedPersons = 0;
         /** The lists in whose digests of the day it is. */
         int digestLists = 0;
@@ -753,7 +753,6 @@ public final class MailPriory {
             this.score = score;
             this.cause = cause;
             this.lapseDay = day.number + patience;
-            this.state = cause == NONE ? PASSED : HELD;
         }
 
         boolean isHeldForScore() {

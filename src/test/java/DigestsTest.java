@@ -12,6 +12,7 @@ public final class DigestsTest {
         lateMailsMakeItAgain();
         lateMailsMakeANewOne();
         aClearingCountsOnceForEachDigest();
+        eachCallCountsForItsOwnDigests();
         risingNumbersWhateverCameFirst();
         readersStay();
         wrongArguments();
@@ -146,6 +147,23 @@ public final class DigestsTest {
         x.pass(1);
         looks(x, 0, 0, 2, Check.set(9), 0, 1, 2);
         looks(x, 0, 2, 1, Check.set(9), 6);
+    }
+
+    private static void eachCallCountsForItsOwnDigests() {
+        MailPriory x = house();
+        x.join(0, 9, DIGEST);
+        x.join(1, 9, DIGEST);
+        x.send(5, 0, 1, NONE);
+        x.send(5, 1, 1, NONE);
+        x.pass(1);
+        x.send(5, 0, 1, NONE);
+        x.pass(1);
+        x.approve(0);
+        x.approve(1);
+        x.approve(2);
+        looks(x, 0, 0, 1, Check.set(9), 0);
+        looks(x, 1, 0, 1, Check.set(9), 1);
+        looks(x, 0, 1, 1, Check.set(9), 2);
     }
 
     private static void risingNumbersWhateverCameFirst() {

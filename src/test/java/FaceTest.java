@@ -56,6 +56,7 @@ public final class FaceTest {
 
     public static void main(String[] args) throws IllegalAccessException {
         Set<String> seen = new TreeSet<>();
+        Set<String> publicNames = new TreeSet<>();
         for (Constructor<?> constructor : MailPriory.class.getDeclaredConstructors()) {
             if (!Modifier.isPrivate(constructor.getModifiers())) {
                 seen.add("new(" + names(constructor.getParameterTypes()) + ")");
@@ -73,9 +74,16 @@ public final class FaceTest {
                 Check.equal("modifiers of " + method.getName(),
                         method.getModifiers(), Modifier.PUBLIC);
                 seen.add(told(method));
+                publicNames.add(method.getName());
             }
         }
         compare(seen);
+        for (Method method : MailPriory.class.getDeclaredMethods()) {
+            if (Modifier.isPrivate(method.getModifiers())) {
+                Check.isTrue("no public method is named " + method.getName() + " too",
+                        !publicNames.contains(method.getName()));
+            }
+        }
         Check.equal("modifiers of the class", MailPriory.class.getModifiers(),
                 Modifier.PUBLIC | Modifier.FINAL);
         Check.end();

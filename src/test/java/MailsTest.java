@@ -26,10 +26,12 @@ public final class MailsTest {
         appealIsOnce();
         voteAsksForJurors();
         voteCondemns();
+        twoVotesAgainstAreEnough();
         voteClearsAllHeldForScore();
         voteClearsAMailHeldForAnotherCause();
         weightStopsAt100();
         holdsLapse();
+        allPersonsAreReached();
         Check.end();
     }
 
@@ -352,6 +354,18 @@ public final class MailsTest {
                 () -> x.approve(0));
     }
 
+    private static void twoVotesAgainstAreEnough() {
+        MailPriory x = house();
+        x.send(9, 0, 1, NONE);
+        x.appeal(0);
+        x.vote(0, 3, false);
+        Check.equal("against again", x.vote(0, 1, false), CONDEMNED);
+        Check.equal("the third is not asked", x.jurors(0), 0);
+        Check.throwsOf("nor may vote", IllegalStateException.class, () -> x.vote(0, 2, true));
+        Check.equal("nor has judged", x.judged(2), 0);
+        Check.equal("it stays condemned", x.state(0), CONDEMNED);
+    }
+
     private static void voteClearsAllHeldForScore() {
         MailPriory x = house();
         x.send(9, 0, 1, NONE);
@@ -455,5 +469,19 @@ public final class MailsTest {
         x.vote(2, 1, true);
         Check.equal("and may pass", x.vote(2, 2, true), PASSED);
         Check.equal("late, into the box", x.mailAt(8, 1), 2);
+    }
+
+    private static void allPersonsAreReached() {
+        MailPriory x = house();
+        for (int person = 0; person < 16; person++) {
+            x.join(1, person, person % 2 == 0 ? DIRECT : DIGEST);
+        }
+        for (int sender = 0; sender < 16; sender++) {
+            x.send(sender, 1, 0, NONE);
+            Check.equal("all but the sender", x.reached(sender), 65535 & ~(1 << sender));
+            for (int reader = 0; reader < 16; reader += 2) {
+                Check.equal("read at once", x.read(reader), reader == sender ? NONE : sender);
+            }
+        }
     }
 }
