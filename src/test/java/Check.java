@@ -1,3 +1,5 @@
+import java.util.function.IntUnaryOperator;
+
 /** Compares answers with the due ones, prints those that differ, and fails the test for them. */
 final class Check {
     interface Call {
@@ -6,15 +8,24 @@ final class Check {
 
     private static int wrong = 0;
     private static int made = 0;
+    private static String subject = "";
 
     private Check() {
+    }
+
+    /** What the checks that follow are about: told ahead of each that fails. */
+    static void about(String newSubject) {
+        subject = newSubject.isEmpty() ? "" : newSubject + ": ";
+    }
+
+    static int made() {
+        return made;
     }
 
     static void equal(String what, long got, long due) {
         made++;
         if (got != due) {
-            wrong++;
-            System.out.println(what + " answered " + got + ", due is " + due);
+            fails(what + " answered " + got + ", due is " + due);
         }
     }
 
@@ -34,8 +45,19 @@ final class Check {
             }
             got = "threw " + e.getClass().getName();
         }
+        fails(what + " " + got + ", due is a throw of " + due.getName());
+    }
+
+    static void throwsForEach(String what, Class<? extends RuntimeException> due, int[] numbers,
+            IntUnaryOperator call) {
+        for (int number : numbers) {
+            throwsOf(what + " " + number, due, () -> call.applyAsInt(number));
+        }
+    }
+
+    private static void fails(String what) {
         wrong++;
-        System.out.println(what + " " + got + ", due is a throw of " + due.getName());
+        System.out.println(subject + what);
     }
 
     static int toInt(boolean answer) {
